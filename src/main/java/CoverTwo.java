@@ -222,11 +222,17 @@ public final class CoverTwo {
     }
 
     public int places(int b) {
-        return isBill(b) ? answer(now.countPlaces(b)) : refuse(NO_SUCH);
+        if (!isBill(b)) {
+            return refuse(NO_SUCH);
+        }
+        return answer(now.countPlaces(b, now.told.lawOf(b), now.told.byHang));
     }
 
     public int place(int b, int i) {
-        int corner = isBill(b) ? now.findPlace(b, i) : NONE;
+        if (!isBill(b)) {
+            return refuse(NO_SUCH);
+        }
+        int corner = now.findPlace(b, i, now.told.lawOf(b), now.told.byHang);
         return corner < 0 ? refuse(NO_SUCH) : answer(corner);
     }
 
@@ -241,7 +247,7 @@ public final class CoverTwo {
         if (n < 0 || n > MAX_TABLE_LAW) {
             return refuse(BAD_NUMBER);
         }
-        return answer(now.countPlacesBy(b, n, hang));
+        return answer(now.countPlaces(b, n, hang));
     }
 
     // ---- acts
@@ -668,6 +674,11 @@ public final class CoverTwo {
             return wide * high;
         }
 
+        /** On how many a bill has to lie. */
+        int lawOf(int b) {
+            return kind[b] == TORN ? law + 1 : law;
+        }
+
         /** How often a word stands in a row of letters. */
         int timesIn(long letters, int w) {
             int times = 0;
@@ -880,10 +891,10 @@ public final class CoverTwo {
         }
 
         boolean mayGo(int b, int upperLeft) {
-            int number = told.kind[b] == TORN ? told.law + 1 : told.law;
-            return couldGo(b, upperLeft, number, told.byHang);
+            return couldGo(b, upperLeft, told.lawOf(b), told.byHang);
         }
 
+        /** Whether a bill may go somewhere if it has to lie on just so many. */
         boolean couldGo(int b, int upperLeft, int number, boolean hang) {
             if (lasts > 0 || count >= MAX_HANGING || !told.fits(b, upperLeft)) {
                 return false;
@@ -894,17 +905,7 @@ public final class CoverTwo {
             return told.kind[b] != WORDING || readsMoreWith(b, upperLeft);
         }
 
-        int countPlaces(int b) {
-            int places = 0;
-            for (int cell = 0; cell < told.cells(); cell++) {
-                if (mayGo(b, cell)) {
-                    places++;
-                }
-            }
-            return places;
-        }
-
-        int countPlacesBy(int b, int number, boolean hang) {
+        int countPlaces(int b, int number, boolean hang) {
             int places = 0;
             for (int cell = 0; cell < told.cells(); cell++) {
                 if (couldGo(b, cell, number, hang)) {
@@ -924,23 +925,15 @@ public final class CoverTwo {
             return places;
         }
 
-        int findPlace(int b, int number) {
-            int left = number;
+        /** The which-th place at which a bill could go, by its upper left cell; NONE if there is none. */
+        int findPlace(int b, int which, int number, boolean hang) {
+            int left = which;
             for (int cell = 0; cell < told.cells(); cell++) {
-                if (mayGo(b, cell)) {
+                if (couldGo(b, cell, number, hang)) {
                     if (left == 0) {
                         return cell;
                     }
                     left--;
-                }
-            }
-            return NONE;
-        }
-
-        int firstPlaceBy(int b, int number, boolean hang) {
-            for (int cell = 0; cell < told.cells(); cell++) {
-                if (couldGo(b, cell, number, hang)) {
-                    return cell;
                 }
             }
             return NONE;
@@ -1568,7 +1561,7 @@ public final class CoverTwo {
             for (int round = 0; before < pasted && round <= MAX_HANGING; round++) {
                 before = pasted;
                 for (int b = 0; b < trial.told.bills; b++) {
-                    int corner = trial.firstPlaceBy(b, number, hang);
+                    int corner = trial.findPlace(b, 0, number, hang);
                     if (corner >= 0) {
                         trial.put(b, corner, FOUNDER);
                         pasted++;
