@@ -1,30 +1,84 @@
-import com.sun.management.ThreadMXBean;
-import java.lang.management.ManagementFactory;
+import java.lang.reflect.Array;
+import java.lang.reflect.Field;
+import java.lang.reflect.Modifier;
+import java.nio.file.Files;
+import java.nio.file.Path;
+import java.util.ArrayDeque;
+import java.util.Deque;
+import java.util.IdentityHashMap;
+import java.util.List;
+import java.util.Map;
 
-/** All that is made is made in the constructor, and is little. */
+/** All that is made is made in constructors, and is little: nothing is kept or made by calls. */
 public final class RoomTest {
-    public static void main(String[] args) {
-        Check check = new Check();
-        ThreadMXBean bean = (ThreadMXBean) ManagementFactory.getThreadMXBean();
-        long id = Thread.currentThread().getId();
-        String text = "wall wide 8 high 4 law 1 seen;bill a plain wide 2 high 2 text abc;bill b wording wide 1 high 1 text b"
-            + ";bill c torn wide 1 high 2 text c;rival p sheets 20;word ab;word bb;founder a at 0,0";
-        CoverTwo x = Check.told(text);
+    private static final Check CHECK = new Check();
+
+    public static void main(String[] args) throws Exception {
+        CoverTwo x = Check.told("wall wide 8 high 4 law 1 seen;bill a plain wide 2 high 2 text abc"
+            + ";bill b wording wide 1 high 1 text b;bill c torn wide 1 high 2 text c"
+            + ";rival p sheets 20;word ab;word bb;founder a at 0,0");
+        long[] fresh = count(x);
+        CHECK.due("an object is made of " + fresh[0] + " objects", fresh[0] < 200, true);
+        CHECK.due("an object has " + fresh[1] + " fields and elements", fresh[1] < 4000, true);
         work(x);
-        long before = bean.getThreadAllocatedBytes(id);
-        CoverTwo[] made = new CoverTwo[100];
-        for (int i = 0; i < made.length; i++) {
-            made[i] = new CoverTwo();
+        long[] used = count(x);
+        CHECK.due("behind calls " + used[0] + " objects", used[0] <= fresh[0], true);
+        CHECK.due("behind calls " + used[1] + " fields and elements", used[1] <= fresh[1], true);
+        newInConstructorsAlone();
+        CHECK.end();
+    }
+
+    /** How many objects can be reached from one, and how many fields and elements they have. */
+    private static long[] count(Object root) throws IllegalAccessException {
+        Map<Object, Boolean> met = new IdentityHashMap<>();
+        Deque<Object> open = new ArrayDeque<>();
+        open.add(root);
+        long cells = 0;
+        while (!open.isEmpty()) {
+            Object one = open.remove();
+            if (met.put(one, true) != null) {
+                continue;
+            }
+            cells += one.getClass().isArray() ? openArray(one, open) : openFields(one, open);
         }
-        long one = (bean.getThreadAllocatedBytes(id) - before) / made.length;
-        check.due("an object takes " + one + " bytes", one < 24000, true);
-        before = bean.getThreadAllocatedBytes(id);
-        for (int i = 0; i < 12; i++) {
-            work(x);
+        return new long[] {met.size(), cells};
+    }
+
+    private static long openArray(Object array, Deque<Object> open) {
+        int length = Array.getLength(array);
+        for (int i = 0; i < length && !array.getClass().getComponentType().isPrimitive(); i++) {
+            open.add(Array.get(array, i));
         }
-        long calls = bean.getThreadAllocatedBytes(id) - before;
-        check.due("calls take " + calls + " bytes", calls < 2000, true);
-        check.end();
+        return length;
+    }
+
+    private static long openFields(Object one, Deque<Object> open) throws IllegalAccessException {
+        long fields = 0;
+        for (Field field : one.getClass().getDeclaredFields()) {
+            if (!Modifier.isStatic(field.getModifiers())) {
+                fields++;
+                field.setAccessible(true);
+                if (!field.getType().isPrimitive() && field.get(one) != null) {
+                    open.add(field.get(one));
+                }
+            }
+        }
+        return fields;
+    }
+
+    private static void newInConstructorsAlone() throws Exception {
+        List<String> lines = Files.readAllLines(Path.of("src/main/java/CoverTwo.java"));
+        for (int i = 0; i < lines.size(); i++) {
+            String code = lines.get(i).strip();
+            boolean comment = code.startsWith("*") || code.startsWith("/*") || code.startsWith("//");
+            boolean field = code.matches("(private |final )*\\w+(\\[\\])* \\w+ = new [\\w\\[\\]() *]+;")
+                && lines.get(i).matches(" {4}(    )?\\S.*");
+            boolean shelf = code.equals("kept = new int[room][KEPT_SIZE];");
+            boolean thrown = code.startsWith("throw new NoSuchElementException(");
+            if (!comment && code.contains("new ")) {
+                CHECK.due("line " + (i + 1) + " makes something", field || shelf || thrown, true);
+            }
+        }
     }
 
     private static void work(CoverTwo x) {

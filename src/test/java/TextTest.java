@@ -65,6 +65,9 @@ public final class TextTest {
         CHECK.due("the tape is empty", x.size(10), 0);
         CHECK.due("not all bytes of it", tellPart(x, ALL + " founder", ALL.length()), 1);
         CHECK.due("the rest is gone too", x.size(10), 0);
+        CHECK.due("a whole that is cut", tellPart(x, "rival r sheets 21", 16), CoverTwo.NONE);
+        CHECK.due("nothing out of bounds in it", x.fault(), 6);
+        CHECK.due("a word that is cut", tellPart(x, ALL + "cdefghijk", ALL.length()), 1);
         CHECK.due("four bills", Check.tell(x, WALL + BILL + ";bill b torn wide 1 high 1 text c"
             + ";bill c last wide 1 high 1 text c;bill d wording wide 1 high 1 text c"), 4);
     }
@@ -94,6 +97,11 @@ public final class TextTest {
         CHECK.due("nobody is paid", x.rival(0, 2), 0);
         CHECK.due("sheets anew", x.rival(0, 0), 8);
         CHECK.due("hanging anew", x.hanging(), 1);
+        x.days(3);
+        Check.tell(x, ALL);
+        Check.tell(x, ALL);
+        CHECK.due("nobody is paid on a third wall", x.rival(0, 2), 0);
+        CHECK.due("nothing hangs on it", x.hanging(), 0);
     }
 
     /** A text with ^ ahead of the place of its fault. */

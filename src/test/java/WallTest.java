@@ -368,6 +368,14 @@ public final class WallTest {
         denied(y, "nothing more", y.undo(), 6);
         given(y, "hanging", y.hanging(), 4);
         given(y, "sheets", y.rival(0, 0), 17);
+        for (int i = 0; i < 40; i++) {
+            y.days(1 + i % 2);
+        }
+        for (int i = 39; i >= 28; i--) {
+            done(y, "undo days", y.undo());
+            given(y, "paid behind " + i + " acts", y.rival(0, 2), 2 * (i + i / 2));
+        }
+        denied(y, "nothing more", y.undo(), 6);
         y.paste(0, 0, 0, 1);
         y.tear(1);
         done(y, "undo tear", y.undo());
