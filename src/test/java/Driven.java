@@ -1,6 +1,7 @@
 import java.lang.reflect.InvocationTargetException;
 import java.lang.reflect.Method;
 import java.lang.reflect.Modifier;
+import java.util.Arrays;
 import java.util.Map;
 import java.util.NoSuchElementException;
 import java.util.TreeMap;
@@ -9,15 +10,15 @@ import java.util.TreeMap;
 final class Driven {
     /** Stands for the answer of a call that throws NoSuchElementException. */
     static final int THROWN = -1000;
-    static final Map<String, Method> CALLS = calls();
-    private static final int MOST_CALLS = 512;
+    static final Map<String, Method> CALLS = face();
+    static final int MOST_CALLS = 512;
     /** How many calls a look makes, so that there is room for it behind some others. */
     private static final int LOOK_CALLS = 380;
     private final CoverTwo x = new CoverTwo();
     private int made;
     private int lookEnd;
 
-    private static Map<String, Method> calls() {
+    private static Map<String, Method> face() {
         Map<String, Method> calls = new TreeMap<>();
         for (Method method : CoverTwo.class.getDeclaredMethods()) {
             if (Modifier.isPublic(method.getModifiers())) {
@@ -36,6 +37,20 @@ final class Driven {
         return driven;
     }
 
+    /** One with so many that hang, all in the same two cells, pasted by turns; the first one is the founder's. */
+    static Driven stack(int hanging) {
+        Driven x = of("wall wide 2 high 1 law 1 seen;bill f plain wide 2 high 1 text a;rival p sheets 20"
+            + ";rival q sheets 20;founder f at 0,0");
+        for (int i = 1; i < hanging; i++) {
+            x.act("paste", 0, 0, 0, i % 2);
+        }
+        return x;
+    }
+
+    int calls() {
+        return made;
+    }
+
     int ask(String call, Object... arguments) {
         made++;
         if (made > MOST_CALLS) {
@@ -52,6 +67,11 @@ final class Driven {
         } catch (IllegalAccessException e) {
             throw new IllegalStateException(call, e);
         }
+    }
+
+    /** A call told as a row: its name, then its arguments. */
+    int askRow(Object... call) {
+        return ask((String) call[0], Arrays.copyOfRange(call, 1, call.length));
     }
 
     /** Makes a call that must not be refused. */

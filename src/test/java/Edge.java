@@ -24,6 +24,11 @@ final class Edge {
         begin("Terms", words);
     }
 
+    /** What follows tests these words of what the document says ahead of all. */
+    void about(String words) {
+        begin("What it is", words);
+    }
+
     private void begin(String heading, String words) {
         sentence = heading + ", \"" + words + "\": ";
         check.due(sentence + "stands there", doc.says(heading, words), true);

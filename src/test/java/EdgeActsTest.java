@@ -1,5 +1,3 @@
-import java.util.Arrays;
-
 /** Promises 20 to 26 at their edges: pasting, peeling, tearing, scraping, days, rivals, undoing. */
 public final class EdgeActsTest {
     private static final Edge E = new Edge();
@@ -11,6 +9,12 @@ public final class EdgeActsTest {
     public static void main(String[] args) {
         sheetsOneLess();
         sheetsDontComeBack();
+        seenCellsOfAll();
+        paidByTheDay();
+        latestIsGone();
+        goneFromBetween();
+        allButTheFounders();
+        fiveActs();
         pasted();
         pasteNoSuch();
         pasteBeyond();
@@ -47,7 +51,7 @@ public final class EdgeActsTest {
 
     private static void sheetsOneLess() {
         E.term("A rival's SHEETS: one less for each that it pastes.");
-        Driven x = EdgeCellsTest.stack(1);
+        Driven x = Driven.stack(1);
         for (int sheets = 20; sheets > 0; sheets--) {
             E.is(x, sheets, "rival", 0, 0);
             x.act("paste", 0, 0, 0, 0);
@@ -64,11 +68,106 @@ public final class EdgeActsTest {
         E.term("(SHEETS don't come back.)");
         for (Object[] act : new Object[][] {{"peel"}, {"tear", 2}, {"tear", 1}, {"scrape"}}) {
             Driven x = lively();
-            x.act((String) act[0], act.length > 1 ? new Object[] {act[1]} : new Object[0]);
+            E.due(act[0] + " is done", x.askRow(act), 1);
             E.is(x, 2, "rival", 0, 0);
             E.is(x, 0, "rival", 1, 0);
             E.is(x, 0, "rival", 2, 0);
             E.no(x, 6, "paste", 1, 1, 1, 1);
+        }
+    }
+
+    private static void seenCellsOfAll() {
+        E.term("Its SEEN CELLS: of all that it pasted.");
+        Driven x = told();
+        E.is(x, 0, "rival", 0, 1);
+        x.act("paste", 1, 0, 0, 0);
+        E.is(x, 1, "rival", 0, 1);
+        x.act("paste", 1, 1, 1, 0);
+        E.is(x, 2, "rival", 0, 1);
+        x.act("paste", 1, 1, 1, 0);
+        E.is(x, 2, "rival", 0, 1);
+        x.act("paste", 1, 0, 0, 1);
+        E.is(x, 1, "rival", 0, 1);
+        E.is(x, 1, "rival", 1, 1);
+        x.act("tear", 3);
+        E.is(x, 1, "rival", 0, 1);
+        x.act("scrape");
+        E.is(x, 0, "rival", 0, 1);
+        E.is(x, 0, "rival", 1, 1);
+    }
+
+    private static void paidByTheDay() {
+        E.term("A DAY: each rival is PAID its SEEN CELLS.");
+        Driven x = told().act("days", 30);
+        int[] paid = {0, 0, 0};
+        int[][] pastes = {{1, 0, 0, 0}, {1, 1, 0, 1}, {2, 0, 0, 0}, {1, 0, 1, 0}};
+        int[][] cells = {{1, 0}, {1, 1}, {2, 0}, {3, 0}};
+        for (int i = 0; i < pastes.length; i++) {
+            x.act("paste", pastes[i][0], pastes[i][1], pastes[i][2], pastes[i][3]);
+            E.is(x, cells[i][0] + cells[i][1], "days", 1);
+            E.is(x, cells[i][0] + cells[i][1], "days", 2);
+            paid[0] += 3 * cells[i][0];
+            paid[1] += 3 * cells[i][1];
+            for (int r = 0; r < 3; r++) {
+                E.is(x, paid[r], "rival", r, 2);
+            }
+        }
+    }
+
+    private static void latestIsGone() {
+        E.term("PEEL: the latest that isn't the founder's is gone.");
+        Driven x = Driven.stack(30);
+        for (int left = 29; left >= 1; left--) {
+            E.is(x, 1, "peel");
+            E.is(x, left, "hanging");
+            E.is(x, left - 1, "shows", 0, 0);
+        }
+        E.no(x, 6, "peel");
+        E.is(x, 1, "hanging");
+        E.is(x, -2, "hung", 0, 3);
+    }
+
+    private static void goneFromBetween() {
+        E.term("TEAR: one that isn't the founder's is gone from between");
+        Driven x = told().act("paste", 1, 0, 0, 0).act("paste", 1, 1, 0, 0).act("paste", 1, 0, 1, 0);
+        E.is(x, 1, "tear", 2);
+        E.is(x, 3, "hanging");
+        E.is(x, 1, "shows", 0, 0);
+        E.is(x, 0, "shows", 1, 0);
+        E.is(x, 2, "shows", 0, 1);
+        E.no(x, 5, "tear", 0);
+        E.is(x, 3, "hanging");
+    }
+
+    private static void allButTheFounders() {
+        E.term("SCRAPE: all but the founder's are gone.");
+        for (int founders = 0; founders <= 4; founders++) {
+            Driven x = Driven.of("wall wide 8 high 1 law 0 seen;bill d plain wide 1 high 1 text d;rival r sheets 9"
+                + ";founder d at 7,0".repeat(founders));
+            x.act("paste", 0, 0, 0, 0).act("paste", 0, 1, 0, 0);
+            E.is(x, 1, "scrape");
+            E.is(x, founders, "hanging");
+            E.is(x, -2, "shows", 0, 0);
+            E.is(x, founders - 1 < 0 ? -2 : founders - 1, "shows", 7, 0);
+            E.is(x, 1, "scrape");
+            E.is(x, founders, "hanging");
+        }
+    }
+
+    private static void fiveActs() {
+        E.term("ACTS: PASTE, PEEL, TEAR, SCRAPE, DAYS.");
+        Object[][] acts = {{"paste", 1, 1, 1, 0}, {"peel"}, {"tear", 1}, {"scrape"}, {"days", 1}};
+        for (Object[] act : acts) {
+            Driven x = lively();
+            x.askRow(act);
+            E.due("acts behind " + act[0], x.ask("size", 8), 4);
+        }
+        Object[][] others = {{"mark"}, {"life", 1, true}, {"far", 2}, {"orders"}, {"best", 1}, {"stays", 1, 0, 0},
+            {"close", 0, 2}, {"wall", -1}, {"feed", 0, 0, 0, 0, 0}, {"may", 1, 0, 0}, {"back", 7}};
+        for (Object[] other : others) {
+            Driven x = lively();
+            x.askRow(other);
+            E.due("acts behind " + other[0], x.ask("size", 8), 3);
         }
     }
 
@@ -100,7 +199,8 @@ public final class EdgeActsTest {
         E.refusedFor(EdgeActsTest::lively, 1, noRival, 3, "paste", 0, 0, 0, 0);
         E.refused(EdgeActsTest::lively, 1, "paste", -1, 0, 0, -1);
         E.refused(Driven::new, 1, "paste", 0, 0, 0, 0);
-        E.refused(() -> Driven.of("wall wide 2 high 1 law 0 seen;bill a plain wide 1 high 1 text a"), 1, "paste", 0, 0, 0, 0);
+        E.refused(() -> Driven.of("wall wide 2 high 1 law 0 seen"
+            + ";bill a plain wide 1 high 1 text a"), 1, "paste", 0, 0, 0, 0);
     }
 
     private static void pasteBeyond() {
@@ -138,8 +238,8 @@ public final class EdgeActsTest {
         E.refused(() -> lively().act("paste", 3, 0, 0, 0), 5, "paste", 1, 0, 0, 0);
         E.is(lively(), 1, "paste", 1, 0, 0, 0);
         E.is(lively(), 1, "paste", 2, 0, 0, 0);
-        E.refused(() -> EdgeCellsTest.stack(30), 5, "paste", 0, 0, 0, 0);
-        E.is(EdgeCellsTest.stack(29), 1, "paste", 0, 0, 0, 0);
+        E.refused(() -> Driven.stack(30), 5, "paste", 0, 0, 0, 0);
+        E.is(Driven.stack(29), 1, "paste", 0, 0, 0, 0);
     }
 
     private static void peeled() {
@@ -195,7 +295,7 @@ public final class EdgeActsTest {
     private static void tornNumbers() {
         E.term("those behind it have numbers one less.");
         for (int gone : new int[] {1, 2, 15, 28, 29}) {
-            Driven x = EdgeCellsTest.stack(30).act("tear", gone);
+            Driven x = Driven.stack(30).act("tear", gone);
             E.is(x, 29, "hanging");
             for (int i = 0; i < 29; i++) {
                 int was = i < gone ? i : i + 1;
@@ -219,8 +319,8 @@ public final class EdgeActsTest {
         E.refused(() -> Driven.of(founders).act("paste", 1, 0, 0, 0), 1, "tear", 5);
         E.refused(EdgeActsTest::told, 1, "tear", 1);
         E.refused(Driven::new, 1, "tear", 0);
-        E.refused(() -> EdgeCellsTest.stack(30), 1, "tear", 30);
-        E.is(EdgeCellsTest.stack(30), 1, "tear", 29);
+        E.refused(() -> Driven.stack(30), 1, "tear", 30);
+        E.is(Driven.stack(30), 1, "tear", 29);
     }
 
     private static void scraped() {
@@ -243,7 +343,7 @@ public final class EdgeActsTest {
         Driven empty = Driven.of("wall wide 2 high 1 law 0 seen;bill a plain wide 1 high 1 text a");
         E.is(empty, 1, "scrape");
         E.is(empty, 0, "hanging");
-        E.is(EdgeCellsTest.stack(30).act("scrape"), 1, "hanging");
+        E.is(Driven.stack(30).act("scrape"), 1, "hanging");
     }
 
     private static void scrapeWithoutWall() {
@@ -270,8 +370,8 @@ public final class EdgeActsTest {
         E.promise(24, "how many CELLS are SEEN of all rivals.");
         E.is(told(), 0, "days", 30);
         E.is(lively(), 2, "days", 30);
-        E.is(EdgeCellsTest.stack(1), 0, "days", 1);
-        E.is(EdgeCellsTest.stack(30), 2, "days", 1);
+        E.is(Driven.stack(1), 0, "days", 1);
+        E.is(Driven.stack(30), 2, "days", 1);
         Driven all = Driven.of("wall wide 8 high 4 law 0 seen;bill a plain wide 8 high 4 text a;rival r sheets 1")
             .act("paste", 0, 0, 0, 0);
         E.is(all, 32, "days", 30);
@@ -301,8 +401,8 @@ public final class EdgeActsTest {
             }
         }
         E.is(four().act("peel"), 1, "rival", 1, 1);
-        E.is(EdgeCellsTest.stack(30), 0, "rival", 0, 1);
-        E.is(EdgeCellsTest.stack(30), 2, "rival", 1, 1);
+        E.is(Driven.stack(30), 0, "rival", 0, 1);
+        E.is(Driven.stack(30), 2, "rival", 1, 1);
         Driven two = told().act("paste", 1, 0, 0, 0).act("paste", 1, 1, 1, 0);
         E.is(two, 2, "rival", 0, 1);
         E.is(two.act("paste", 1, 1, 1, 1), 1, "rival", 0, 1);
@@ -323,7 +423,7 @@ public final class EdgeActsTest {
     private static void twelveAreKept() {
         E.term("UNDO: the latest (12 are kept).");
         for (int acts : new int[] {0, 1, 11, 12, 13, 24, 25}) {
-            Driven x = EdgeCellsTest.stack(1 + acts);
+            Driven x = Driven.stack(1 + acts);
             int kept = Math.min(acts, 12);
             for (int left = kept; left > 0; left--) {
                 E.is(x, left, "size", 8);
@@ -339,7 +439,7 @@ public final class EdgeActsTest {
     /** Undoing and acting by turns, so that what is kept goes round more than once. */
     private static void keptAgainAndAgain() {
         E.term("UNDO: the latest (12 are kept).");
-        Driven x = EdgeCellsTest.stack(2);
+        Driven x = Driven.stack(2);
         int paid = 0;
         for (int n = 1; n <= 30; n++) {
             x.act("days", n);
@@ -364,7 +464,7 @@ public final class EdgeActsTest {
             {"days", 30}, {"paste", 3, 1, 1, 0}};
         for (Object[] act : acts) {
             Driven x = four();
-            x.act((String) act[0], Arrays.copyOfRange(act, 1, act.length));
+            x.askRow(act);
             E.is(x, 5, "size", 8);
             E.is(x, 1, "undo");
             E.stays(EdgeActsTest::four, x, act[0] + " undone");
@@ -374,7 +474,8 @@ public final class EdgeActsTest {
     /** A wall where nothing is the founder's: all that hangs goes, and comes back. */
     private static void undoneToNothing() {
         E.promise(26, "UNDO: true");
-        String text = "wall wide 3 high 1 law 0 seen;bill d plain wide 1 high 1 text d;bill e plain wide 2 high 1 text e;rival r sheets 9";
+        String text = "wall wide 3 high 1 law 0 seen;bill d plain wide 1 high 1 text d"
+            + ";bill e plain wide 2 high 1 text e;rival r sheets 9";
         Driven x = Driven.of(text).act("paste", 1, 1, 0, 0);
         E.is(x, 1, "undo");
         E.is(x, 0, "hanging");
@@ -397,7 +498,7 @@ public final class EdgeActsTest {
         E.no(x, 6, "undo");
         for (Object[] refused : new Object[][] {{"paste", 1, 3, 1, 0}, {"peel"}, {"tear", 0}, {"tear", 9}, {"days", 31}}) {
             Driven y = told();
-            y.ask((String) refused[0], Arrays.copyOfRange(refused, 1, refused.length));
+            y.askRow(refused);
             E.no(y, 6, "undo");
         }
     }

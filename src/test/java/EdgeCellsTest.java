@@ -7,7 +7,9 @@ public final class EdgeCellsTest {
 
     public static void main(String[] args) {
         cellNumbers();
+        foundersFirst();
         latestShows();
+        seenByCells();
         lettersOfText();
         ofABill();
         noSuchBill();
@@ -39,25 +41,17 @@ public final class EdgeCellsTest {
         return Driven.of("wall wide 2 high 1 law 0 hang;bill a plain wide 1 high 1 text ab;rival r sheets 1");
     }
 
-    /** So many that hang, all in the same two cells. */
-    static Driven stack(int hanging) {
-        Driven x = Driven.of("wall wide 2 high 1 law 1 seen;bill f plain wide 2 high 1 text a;rival p sheets 20"
-            + ";rival q sheets 20;founder f at 0,0");
-        for (int i = 1; i < hanging; i++) {
-            x.act("paste", 0, 0, 0, i % 2);
-        }
-        return x;
-    }
-
     private static Driven stack30() {
-        return stack(30);
+        return Driven.stack(30);
     }
 
     /** Founder's 0 at the left, 1 beside it; then 2 over the first, 3 over the second, 4 at the right end. */
     private static Driven five() {
-        return Driven.of("wall wide 6 high 1 law 0 hang;bill a plain wide 2 high 1 text abc;bill t torn wide 2 high 1 text d"
+        return Driven.of("wall wide 6 high 1 law 0 hang;bill a plain wide 2 high 1 text abc"
+            + ";bill t torn wide 2 high 1 text d"
             + ";bill d plain wide 1 high 1 text e;rival p sheets 9;rival q sheets 9"
-            + ";founder a at 0,0;founder d at 2,0").act("paste", 1, 0, 0, 1).act("paste", 1, 2, 0, 0).act("paste", 2, 5, 0, 0);
+            + ";founder a at 0,0"
+            + ";founder d at 2,0").act("paste", 1, 0, 0, 1).act("paste", 1, 2, 0, 0).act("paste", 2, 5, 0, 0);
     }
 
     /** Three side by side, and one over the second and the third, a row lower too. */
@@ -80,9 +74,23 @@ public final class EdgeCellsTest {
         E.is(small(), 1, "place", 0, 1);
     }
 
+    private static void foundersFirst() {
+        E.term("HANGING are bills by numbers, as they came, the founder's first.");
+        for (int founders : new int[] {0, 1, 4}) {
+            Driven x = Driven.of("wall wide 8 high 4 law 0 seen;bill d plain wide 1 high 1 text d;rival r sheets 20"
+                + ";founder d at 7,3".repeat(founders) + ";paste d at 6,3 by r;paste d at 5,3 by r");
+            x.act("paste", 0, 4, 3, 0);
+            for (int i = 0; i < founders + 3; i++) {
+                E.is(x, i < founders ? -2 : 0, "hung", i, 3);
+                E.is(x, i < founders ? 7 : 6 - (i - founders), "hung", i, 1);
+            }
+            E.no(x, 1, "hung", founders + 3, 3);
+        }
+    }
+
     private static void latestShows() {
         E.term("A CELL SHOWS the latest that is there");
-        Driven x = stack(1);
+        Driven x = Driven.stack(1);
         for (int i = 0; i < 29; i++) {
             E.is(x, i, "shows", 1, 0);
             x.act("paste", 0, 0, 0, i % 2);
@@ -92,8 +100,27 @@ public final class EdgeCellsTest {
         E.is(x, 28, "shows", 1, 0);
     }
 
+    private static void seenByCells() {
+        E.term("a HANGING one is SEEN by the CELLS that SHOW it.");
+        Driven x = Driven.of("wall wide 4 high 1 law 1 seen;bill a plain wide 4 high 1 text a"
+            + ";bill d plain wide 1 high 1 text d;rival r sheets 9;founder a at 0,0");
+        for (int covered = 0; covered < 4; covered++) {
+            E.is(x, 4 - covered, "hung", 0, 4);
+            E.is(x, Driven.THROWN, "led", 0);
+            x.act("paste", 1, covered, 0, 0);
+            E.is(x, 1, "hung", covered + 1, 4);
+        }
+        E.is(x, 0, "hung", 0, 4);
+        E.is(x, 0, "led", 0);
+        x.act("paste", 1, 3, 0, 0);
+        E.is(x, 0, "hung", 4, 4);
+        x.act("peel").act("peel");
+        E.is(x, 1, "hung", 0, 4);
+    }
+
     private static void lettersOfText() {
-        E.term("the TEXT's letter of that number, mod how many it has.");
+        E.term("in the bill's own rows its CELLS are numbered from 0 on;"
+            + " the TEXT's letter of that number, mod how many it has.");
         String[] texts = {"a", "ab", "abc", "abcde", "abcdef", "abcdefg", "abcdefgh"};
         for (String text : texts) {
             Driven x = Driven.of("wall wide 4 high 3 law 0 seen;bill a plain wide 3 high 2 text " + text
@@ -137,7 +164,7 @@ public final class EdgeCellsTest {
         E.asked(EdgeCellsTest::small, 0, "hanging");
         E.asked(EdgeCellsTest::large, 4, "hanging");
         for (int hanging : new int[] {1, 2, 29, 30}) {
-            E.asked(() -> stack(hanging), hanging, "hanging");
+            E.asked(() -> Driven.stack(hanging), hanging, "hanging");
         }
         Driven x = stack30();
         E.no(x, 5, "paste", 0, 0, 0, 0);
@@ -155,7 +182,8 @@ public final class EdgeCellsTest {
     }
 
     private static void ofOneHanging() {
-        E.promise(8, "Of one HANGING 0 its bill, 1 x, 2 y, 3 the rival (-2 the founder's), 4 by how many CELLS it is SEEN.");
+        E.promise(8,
+            "Of one HANGING 0 its bill, 1 x, 2 y, 3 the rival (-2 the founder's), 4 by how many CELLS it is SEEN.");
         int[][] corners = {{0, 0}, {7, 0}, {0, 3}, {7, 3}};
         for (int i = 0; i < 4; i++) {
             E.asked(EdgeCellsTest::large, 0, "hung", i, 0);

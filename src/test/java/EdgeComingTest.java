@@ -13,6 +13,8 @@ public final class EdgeComingTest {
         bestRefused();
         farByCells();
         farToThirty();
+        shortestToThirty();
+        winsToThirty();
         farRefused();
         shortestByCells();
         shortestRefused();
@@ -21,6 +23,7 @@ public final class EdgeComingTest {
         twentyThousandRows();
         oneRowMore();
         closeByCells();
+        closeShowsAll();
         closeBySheets();
         closeRefused();
         closeRows();
@@ -52,7 +55,8 @@ public final class EdgeComingTest {
         E.term("how many CELLS of it are SEEN behind it and one more bill, whatever that is, wherever that MAY go, at least");
         E.is(four(), 1, "stays", 0, 0, 0);
         E.is(four(), 0, "stays", 3, 0, 0);
-        String covered = "wall wide 4 high 1 law 1 seen;bill a plain wide 4 high 1 text a;bill b plain wide 3 high 1 text b;founder a at 0,0";
+        String covered = "wall wide 4 high 1 law 1 seen;bill a plain wide 4 high 1 text a"
+            + ";bill b plain wide 3 high 1 text b;founder a at 0,0";
         E.is(Driven.of(covered), 0, "stays", 0, 0, 0);
         E.is(Driven.of(covered), 0, "stays", 1, 0, 0);
         String torn = "wall wide 4 high 1 law 0 hang;bill a plain wide 3 high 1 text a;bill t torn wide 2 high 1 text t";
@@ -66,8 +70,8 @@ public final class EdgeComingTest {
     private static void staysAsPasted() {
         E.term("(as it is pasted, if none MAY)");
         E.is(four(), 3, "stays", 2, 0, 0);
-        E.is(EdgeCellsTest.stack(28), 0, "stays", 0, 0, 0);
-        E.is(EdgeCellsTest.stack(29), 2, "stays", 0, 0, 0);
+        E.is(Driven.stack(28), 0, "stays", 0, 0, 0);
+        E.is(Driven.stack(29), 2, "stays", 0, 0, 0);
         E.is(cells(1), 1, "stays", 0, 1, 0);
         Driven all = Driven.of("wall wide 8 high 4 law 0 hang;bill a plain wide 8 high 4 text a");
         E.is(all, 32, "stays", 0, 0, 0);
@@ -84,29 +88,32 @@ public final class EdgeComingTest {
         E.refused(EdgeComingTest::four, 5, "stays", 1, 3, 0);
         E.refused(EdgeComingTest::four, 2, "stays", 1, 4, 0);
         E.refused(() -> four().act("paste", 3, 0, 0, 0), 5, "stays", 0, 0, 0);
-        E.refused(() -> EdgeCellsTest.stack(30), 5, "stays", 0, 0, 0);
+        E.refused(() -> Driven.stack(30), 5, "stays", 0, 0, 0);
         E.refused(Driven::new, 1, "stays", 0, 0, 0);
     }
 
     private static void bestIsFirst() {
         E.promise(32, "BEST: the number of its upper left CELL.");
+        E.term("BEST: the place of most, the first such.");
         E.asked(EdgeComingTest::four, 0, "best", 0);
         E.asked(EdgeComingTest::four, 0, "best", 2);
         String text = "wall wide 5 high 1 law 0 hang;bill d plain wide 1 high 1 text a;bill t torn wide 2 high 1 text b";
         E.asked(() -> Driven.of(text + ";founder d at 2,0;founder d at 4,0"), 3, "best", 0);
         E.asked(() -> Driven.of(text + ";founder d at 0,0;founder d at 2,0"), 1, "best", 0);
         E.asked(() -> Driven.of(text + ";founder d at 3,0;founder d at 1,0"), 0, "best", 0);
-        E.asked(() -> Driven.of(text + ";founder d at 0,0;founder d at 1,0;founder d at 2,0;founder d at 3,0"), 4, "best", 0);
-        E.asked(() -> Driven.of("wall wide 8 high 4 law 1 hang;bill d plain wide 1 high 1 text d;founder d at 7,3"), 31, "best", 0);
-        E.asked(() -> EdgeCellsTest.stack(28), 0, "best", 0);
-        E.asked(() -> EdgeCellsTest.stack(29), 0, "best", 0);
+        E.asked(() -> Driven.of(text + ";founder d at 0,0;founder d at 1,0;founder d at 2,0"
+            + ";founder d at 3,0"), 4, "best", 0);
+        E.asked(() -> Driven.of("wall wide 8 high 4 law 1 hang;bill d plain wide 1 high 1 text d"
+            + ";founder d at 7,3"), 31, "best", 0);
+        E.asked(() -> Driven.stack(28), 0, "best", 0);
+        E.asked(() -> Driven.stack(29), 0, "best", 0);
     }
 
     private static void bestRefused() {
         E.promise(32, "NONE: 1; 6 (it MAY go nowhere).");
         E.refusedFor(EdgeComingTest::four, 1, NO_BILL, 0, "best", 0);
         E.refused(EdgeComingTest::four, 6, "best", 1);
-        E.refused(() -> EdgeCellsTest.stack(30), 6, "best", 0);
+        E.refused(() -> Driven.stack(30), 6, "best", 0);
         E.refused(() -> cells(0), 6, "best", 0);
         E.asked(() -> cells(1), 1, "best", 0);
         E.refused(Driven::new, 1, "best", 0);
@@ -122,7 +129,8 @@ public final class EdgeComingTest {
         }
         Driven last = Driven.of("wall wide 4 high 1 law 0 hang;bill z last wide 1 high 1 text z");
         E.is(last, 1, "far", 4);
-        Driven both = Driven.of("wall wide 2 high 1 law 0 hang;bill z last wide 2 high 1 text z;bill d plain wide 1 high 1 text d");
+        Driven both = Driven.of("wall wide 2 high 1 law 0 hang;bill z last wide 2 high 1 text z"
+            + ";bill d plain wide 1 high 1 text d");
         E.is(both, 2, "far", 4);
         E.is(both, 1, "far", 1);
     }
@@ -130,13 +138,40 @@ public final class EdgeComingTest {
     private static void farToThirty() {
         E.term("of these FAR is the length of the longest");
         for (int hanging = 25; hanging <= 30; hanging++) {
-            Driven x = EdgeCellsTest.stack(hanging);
+            Driven x = Driven.stack(hanging);
             for (int d = 1; d <= 4; d++) {
                 E.is(x, Math.min(d, 30 - hanging), "far", d);
+            }
+        }
+    }
+
+    private static void shortestToThirty() {
+        E.term("SHORT of the shortest behind which it is FULL.");
+        for (int hanging = 25; hanging <= 30; hanging++) {
+            Driven x = Driven.stack(hanging);
+            for (int d = 1; d <= 4; d++) {
                 E.is(x, 30 - hanging <= d ? 30 - hanging : -2, "shortest", d);
+            }
+        }
+        Driven some = Driven.of("wall wide 5 high 1 law 0 hang;bill a plain wide 4 high 1 text a"
+            + ";bill e plain wide 2 high 1 text e");
+        E.is(some, 1, "shortest", 1);
+        E.is(some, 2, "far", 4);
+        E.is(Driven.of("wall wide 2 high 1 law 1 hang;bill d plain wide 1 high 1 text d"), 0, "shortest", 1);
+    }
+
+    private static void winsToThirty() {
+        E.term("WINS: by turns, all bills for both, who can't paste has lost: whether who is next can bring about,"
+            + " with d pastings at most, that the other one can't.");
+        for (int hanging = 25; hanging <= 30; hanging++) {
+            Driven x = Driven.stack(hanging);
+            for (int d = 1; d <= 4; d++) {
                 E.is(x, 30 - hanging <= d ? (30 - hanging) % 2 : 0, "wins", d);
             }
         }
+        Driven without = Driven.of("wall wide 3 high 1 law 0 hang;bill d plain wide 1 high 1 text d;rival r sheets 0");
+        E.is(without, 0, "wins", 2);
+        E.is(without, 1, "wins", 3);
     }
 
     private static void rowsRefused(String call) {
@@ -160,12 +195,14 @@ public final class EdgeComingTest {
                 E.asked(() -> cells(now), free <= d ? free : -2, "shortest", d);
             }
         }
-        Driven two = Driven.of("wall wide 4 high 1 law 0 hang;bill a plain wide 2 high 1 text a;bill d plain wide 1 high 1 text d");
+        Driven two = Driven.of("wall wide 4 high 1 law 0 hang;bill a plain wide 2 high 1 text a"
+            + ";bill d plain wide 1 high 1 text d");
         int[] due = {-2, 2, 2, 2};
         for (int d = 1; d <= 4; d++) {
             E.is(two, due[d - 1], "shortest", d);
         }
-        Driven last = Driven.of("wall wide 8 high 1 law 0 hang;bill d plain wide 1 high 1 text d;bill z last wide 1 high 1 text z");
+        Driven last = Driven.of("wall wide 8 high 1 law 0 hang;bill d plain wide 1 high 1 text d"
+            + ";bill z last wide 1 high 1 text z");
         E.is(last, 1, "shortest", 1);
         E.is(last, 1, "shortest", 4);
     }
@@ -183,11 +220,13 @@ public final class EdgeComingTest {
                 E.asked(() -> cells(now), free <= d ? free % 2 : 0, "wins", d);
             }
         }
-        Driven choice = Driven.of("wall wide 2 high 1 law 0 hang;bill d plain wide 1 high 1 text d;bill a plain wide 2 high 1 text a");
+        Driven choice = Driven.of("wall wide 2 high 1 law 0 hang;bill d plain wide 1 high 1 text d"
+            + ";bill a plain wide 2 high 1 text a");
         for (int d = 1; d <= 4; d++) {
             E.is(choice, 1, "wins", d);
         }
-        Driven other = Driven.of("wall wide 3 high 1 law 0 hang;bill a plain wide 2 high 1 text a;bill d plain wide 1 high 1 text d");
+        Driven other = Driven.of("wall wide 3 high 1 law 0 hang;bill a plain wide 2 high 1 text a"
+            + ";bill d plain wide 1 high 1 text d");
         int[] due = {0, 0, 1, 1};
         for (int d = 1; d <= 4; d++) {
             E.is(other, due[d - 1], "wins", d);
@@ -242,7 +281,8 @@ public final class EdgeComingTest {
             E.is(x, orNothing(wall.shortest(0, d - 1), d - 1), "shortest", d - 1);
             E.is(x, wall.wins(0, d - 1) ? 1 : 0, "wins", d - 1);
         }
-        Driven largest = Driven.of("wall wide 8 high 4 law 1 seen;bill a plain wide 1 high 1 text a;bill b plain wide 1 high 1 text b"
+        Driven largest = Driven.of("wall wide 8 high 4 law 1 seen;bill a plain wide 1 high 1 text a"
+            + ";bill b plain wide 1 high 1 text b"
             + ";bill c plain wide 1 high 1 text c;bill f plain wide 8 high 4 text f;founder f at 0,0" + RIVALS);
         E.is(largest, 2, "far", 2);
         E.no(largest, 3, "far", 3);
@@ -269,11 +309,31 @@ public final class EdgeComingTest {
             }
         }
         E.asked(() -> cells(1), -2, "close", 0, 4);
-        E.asked(() -> EdgeCellsTest.stack(1), 1, "close", 0, 1);
-        E.asked(() -> EdgeCellsTest.stack(2), 0, "close", 1, 1);
-        E.asked(() -> EdgeCellsTest.stack(29), 1, "close", 1, 4);
-        E.asked(() -> EdgeCellsTest.stack(30), -2, "close", 0, 4);
-        E.asked(() -> EdgeCellsTest.stack(30), 0, "close", 1, 4);
+        E.asked(() -> Driven.stack(1), 1, "close", 0, 1);
+        E.asked(() -> Driven.stack(2), 0, "close", 1, 1);
+        E.asked(() -> Driven.stack(29), 1, "close", 1, 4);
+        E.asked(() -> Driven.stack(30), -2, "close", 0, 4);
+        E.asked(() -> Driven.stack(30), 0, "close", 1, 4);
+    }
+
+    private static void closeShowsAll() {
+        E.term("CLOSE of a rival: the length of the shortest ROW of bills (0 to d) of that rival's");
+        String text = "wall wide 2 high 2 law 1 seen;bill a plain wide 2 high 2 text a;bill e plain wide 2 high 1 text e"
+            + ";bill d plain wide 1 high 1 text d" + RIVALS + ";founder a at 0,0";
+        Driven x = Driven.of(text);
+        E.is(x, 1, "close", 0, 1);
+        x.act("paste", 1, 0, 0, 0);
+        E.is(x, 1, "close", 0, 1);
+        x.act("paste", 2, 0, 1, 0);
+        E.is(x, 1, "close", 0, 1);
+        E.is(x, -2, "close", 1, 2);
+        E.is(x, 3, "close", 1, 3);
+        x.act("paste", 2, 1, 1, 0);
+        E.is(x, 0, "close", 0, 1);
+        E.is(x, 3, "close", 1, 3);
+        E.is(x, -2, "close", 2, 4);
+        x.act("paste", 2, 1, 1, 1);
+        E.is(x, 1, "close", 0, 1);
     }
 
     private static void closeBySheets() {
@@ -350,13 +410,15 @@ public final class EdgeComingTest {
     private static void lifeByRounds() {
         E.term("rounds of all bills told, each pasted at its first place, if there is any (as for table()),"
             + " till none of a round is");
-        String text = "wall wide 3 high 1 law 4 hang;bill w wording wide 2 high 1 text b;bill d plain wide 1 high 1 text a;word abb";
+        String text = "wall wide 3 high 1 law 4 hang;bill w wording wide 2 high 1 text b"
+            + ";bill d plain wide 1 high 1 text a;word abb";
         E.asked(() -> Driven.of(text), 2, "life", 0, true);
         E.asked(() -> Driven.of(text.replace(";word abb", "")), 3, "life", 0, true);
         E.asked(() -> Driven.of(text.replace("bill d plain", "bill d last")), 1, "life", 0, true);
         String wide = "wall wide 4 high 1 law 4 hang;bill a plain wide 2 high 1 text a;bill d plain wide 1 high 1 text d";
         E.asked(() -> Driven.of(wide), 3, "life", 0, true);
-        String lastAhead = "wall wide 4 high 1 law 4 hang;bill d plain wide 1 high 1 text d;bill z last wide 1 high 1 text z"
+        String lastAhead = "wall wide 4 high 1 law 4 hang;bill d plain wide 1 high 1 text d"
+            + ";bill z last wide 1 high 1 text z"
             + ";bill e plain wide 1 high 1 text e";
         E.asked(() -> Driven.of(lastAhead), 2, "life", 0, true);
         E.asked(() -> Driven.of(lastAhead + ";founder z at 0,0"), 0, "life", 0, true);
@@ -367,10 +429,11 @@ public final class EdgeComingTest {
     private static void lifeToThirty() {
         E.term("how many are pasted so.");
         for (int hanging : new int[] {1, 2, 28, 29, 30}) {
-            E.asked(() -> EdgeCellsTest.stack(hanging), 30 - hanging, "life", 1, false);
+            E.asked(() -> Driven.stack(hanging), 30 - hanging, "life", 1, false);
         }
         E.asked(() -> Driven.of("wall wide 8 high 4 law 4 hang;bill d plain wide 1 high 1 text d"), 30, "life", 0, true);
-        E.asked(() -> Driven.of("wall wide 8 high 4 law 4 hang;bill d plain wide 1 high 1 text d;bill e plain wide 1 high 1 text e"
+        E.asked(() -> Driven.of("wall wide 8 high 4 law 4 hang;bill d plain wide 1 high 1 text d"
+            + ";bill e plain wide 1 high 1 text e"
             + ";founder d at 3,3"), 29, "life", 0, true);
     }
 

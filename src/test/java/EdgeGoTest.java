@@ -93,7 +93,8 @@ public final class EdgeGoTest {
         for (int law = 0; law <= 4; law++) {
             StringBuilder founders = new StringBuilder();
             for (int many = 0; many <= 4; many++) {
-                String bills = ";bill w plain wide 4 high 1 text w;bill t torn wide 4 high 1 text t;bill d plain wide 1 high 1 text d";
+                String bills = ";bill w plain wide 4 high 1 text w;bill t torn wide 4 high 1 text t"
+                    + ";bill d plain wide 1 high 1 text d";
                 Driven x = Driven.of("wall wide 5 high 1 law " + law + " seen" + bills + founders);
                 E.is(x, many, "on", 0, 0, 0);
                 E.is(x, many == law ? 1 : 0, "may", 0, 0, 0);
@@ -110,7 +111,8 @@ public final class EdgeGoTest {
     /** Four in the wall's ends, one in its middle on all of them, then a torn one over five. */
     private static void fiveThatAreSeen() {
         E.term("(torn: one more)");
-        Driven x = Driven.of("wall wide 8 high 2 law 4 seen;bill e plain wide 3 high 1 text e;bill m plain wide 4 high 2 text m"
+        Driven x = Driven.of("wall wide 8 high 2 law 4 seen;bill e plain wide 3 high 1 text e"
+            + ";bill m plain wide 4 high 2 text m"
             + ";bill t torn wide 8 high 2 text t;rival r sheets 9"
             + ";founder e at 0,0;founder e at 5,0;founder e at 0,1;founder e at 5,1");
         E.is(x, 4, "on", 2, 0, 0);
@@ -153,13 +155,13 @@ public final class EdgeGoTest {
     private static void fewerThanThirty() {
         E.term("there are fewer than 30");
         for (int hanging = 28; hanging <= 30; hanging++) {
-            Driven x = EdgeCellsTest.stack(hanging);
+            Driven x = Driven.stack(hanging);
             E.is(x, hanging < 30 ? 1 : 0, "may", 0, 0, 0);
             E.is(x, hanging < 30 ? 1 : 0, "places", 0);
             E.is(x, hanging < 30 ? 0 : 1, "full");
             E.is(x, hanging < 30 ? 1 : 0, "table", 0, 1, false);
         }
-        Driven x = EdgeCellsTest.stack(30);
+        Driven x = Driven.stack(30);
         E.no(x, 5, "paste", 0, 0, 0, 0);
         E.is(x, 30, "hanging");
         x.act("tear", 1);
@@ -215,7 +217,8 @@ public final class EdgeGoTest {
         tall("ababxx", "aa", ";word ab", 0);
         tall("xbxxab", "ac", ";word ab", 1);
         tall("xbxbab", "ca", ";word ab", 1);
-        Driven low = Driven.of("wall wide 2 high 2 law 1 seen;bill f plain wide 2 high 2 text xbab;bill w wording wide 1 high 1 text a"
+        Driven low = Driven.of("wall wide 2 high 2 law 1 seen;bill f plain wide 2 high 2 text xbab"
+            + ";bill w wording wide 1 high 1 text a"
             + ";word ab;founder f at 0,0");
         E.is(low, 1, "may", 1, 0, 0);
         E.is(low, 0, "may", 1, 0, 1);
@@ -278,12 +281,15 @@ public final class EdgeGoTest {
                     boolean there = x >= 0 && y >= 0 && x + sizes[b][0] <= 4 && y + sizes[b][1] <= 2;
                     Driven d = plainWall();
                     int answer = d.ask(call, b, x, y);
-                    E.due(call + " of " + b + " at " + x + "," + y + " is refused", answer == CoverTwo.NONE ? 1 : 0, there ? 0 : 1);
+                    E.due(call + " of " + b + " at " + x + "," + y + " is refused", answer == CoverTwo.NONE ? 1 : 0,
+                        there ? 0 : 1);
                     E.due("its trouble", d.ask("trouble"), there ? 0 : 2);
                 }
             }
-            E.refusedFor(EdgeGoTest::plainWall, 2, new int[] {-1, 5 - sizes[b][0], 32, Edge.MOST, Edge.LEAST}, 1, call, b, 0, 0);
-            E.refusedFor(EdgeGoTest::plainWall, 2, new int[] {-1, 3 - sizes[b][1], 32, Edge.MOST, Edge.LEAST}, 2, call, b, 0, 0);
+            E.refusedFor(EdgeGoTest::plainWall, 2, new int[] {-1, 5 - sizes[b][0], 32, Edge.MOST, Edge.LEAST}, 1, call,
+                b, 0, 0);
+            E.refusedFor(EdgeGoTest::plainWall, 2, new int[] {-1, 3 - sizes[b][1], 32, Edge.MOST, Edge.LEAST}, 2, call,
+                b, 0, 0);
         }
     }
 
@@ -376,8 +382,8 @@ public final class EdgeGoTest {
         E.promise(18, "Whether it is FULL: 1, 0.");
         E.asked(EdgeGoTest::free, 0, "full");
         E.asked(EdgeGoTest::covered, 0, "full");
-        E.asked(() -> EdgeCellsTest.stack(29), 0, "full");
-        E.asked(() -> EdgeCellsTest.stack(30), 1, "full");
+        E.asked(() -> Driven.stack(29), 0, "full");
+        E.asked(() -> Driven.stack(30), 1, "full");
         E.asked(() -> made("seen", 1, ""), 1, "full");
     }
 
@@ -387,7 +393,8 @@ public final class EdgeGoTest {
     }
 
     private static void tableOfNumbers() {
-        E.promise(19, "At how many places a bill could go if it had to lie on just n (0 .. 5), that hang, or that are seen");
+        E.promise(19,
+            "At how many places a bill could go if it had to lie on just n (0 .. 5), that hang, or that are seen");
         Driven x = made("hang", 4, heap(4)).act("paste", 2, 0, 0, 0);
         int[] hang = {7, 0, 0, 0, 0, 1};
         int[] seen = {7, 1, 0, 0, 0, 0};
@@ -413,9 +420,10 @@ public final class EdgeGoTest {
         E.asked(EdgeGoTest::covered, 0, "table", 2, 2, true);
         E.asked(() -> made("seen", 0, ";founder z at 0,0"), 0, "table", 2, 0, true);
         E.asked(() -> made("seen", 0, ""), 4, "table", 3, 0, true);
-        E.asked(() -> EdgeCellsTest.stack(29), 1, "table", 0, 1, false);
-        E.asked(() -> EdgeCellsTest.stack(30), 0, "table", 0, 1, false);
-        String wording = "wall wide 3 high 1 law 4 seen;bill w wording wide 1 high 1 text a;bill d plain wide 1 high 1 text b"
+        E.asked(() -> Driven.stack(29), 1, "table", 0, 1, false);
+        E.asked(() -> Driven.stack(30), 0, "table", 0, 1, false);
+        String wording = "wall wide 3 high 1 law 4 seen;bill w wording wide 1 high 1 text a"
+            + ";bill d plain wide 1 high 1 text b"
             + ";founder d at 2,0";
         E.asked(() -> Driven.of(wording), 0, "table", 0, 0, true);
         E.asked(() -> Driven.of(wording + ";word a"), 2, "table", 0, 0, true);

@@ -1,5 +1,3 @@
-import java.util.Arrays;
-
 /** Promises 38 to 44 at their edges: orders, marks, what isn't seen, sizes, trouble. */
 public final class EdgeMarksTest {
     private static final Edge E = new Edge();
@@ -26,6 +24,7 @@ public final class EdgeMarksTest {
         sizeOfWhatThereIsnt();
         latestThatMayBeRefused();
         eachTrouble();
+        upToTheLastCall();
         E.end(38, 44);
     }
 
@@ -49,6 +48,7 @@ public final class EdgeMarksTest {
 
     private static void sevenAtMost() {
         E.promise(38, "ORDERS: how many.");
+        E.term("ORDERS: of all orders of those HANGING that aren't the founder's (7 at most, else 3)");
         for (int many = 0; many <= 7; many++) {
             int now = many;
             E.asked(() -> sideBySide(now, 0), factorial(many), "orders");
@@ -86,9 +86,9 @@ public final class EdgeMarksTest {
     private static void showsTheSame() {
         E.term("those that leave the wall as it looks now: each CELL SHOWS the same.");
         for (int many = 1; many <= 7; many++) {
-            E.is(EdgeCellsTest.stack(1 + many), factorial(many - 1), "orders");
+            E.is(Driven.stack(1 + many), factorial(many - 1), "orders");
         }
-        E.refused(() -> EdgeCellsTest.stack(9), 3, "orders");
+        E.refused(() -> Driven.stack(9), 3, "orders");
         String text = "wall wide 3 high 1 law 1 seen;bill a plain wide 3 high 1 text a;bill d plain wide 1 high 1 text a"
             + ";rival r sheets 9;founder a at 0,0";
         Driven apart = Driven.of(text).act("paste", 1, 0, 0, 0).act("paste", 1, 2, 0, 0);
@@ -114,11 +114,11 @@ public final class EdgeMarksTest {
             E.asked(() -> sideBySide(now, 1), factorial(many) / 2, "ahead", 1, many);
             E.asked(() -> sideBySide(now, 1), factorial(many) / 2, "ahead", many, 1);
             E.asked(() -> sideBySide(now, 1), factorial(many) / 2, "ahead", many - 1, many);
-            E.asked(() -> EdgeCellsTest.stack(now + 1), factorial(many - 1), "ahead", 1, many);
-            E.asked(() -> EdgeCellsTest.stack(now + 1), 0, "ahead", many, 1);
+            E.asked(() -> Driven.stack(now + 1), factorial(many - 1), "ahead", 1, many);
+            E.asked(() -> Driven.stack(now + 1), 0, "ahead", many, 1);
         }
-        E.asked(() -> EdgeCellsTest.stack(4), 1, "ahead", 1, 2);
-        E.asked(() -> EdgeCellsTest.stack(4), 1, "ahead", 2, 1);
+        E.asked(() -> Driven.stack(4), 1, "ahead", 1, 2);
+        E.asked(() -> Driven.stack(4), 1, "ahead", 2, 1);
     }
 
     private static void aheadUnlike() {
@@ -137,7 +137,7 @@ public final class EdgeMarksTest {
     }
 
     private static void aheadFounders() {
-        E.promise(39, "5 (the founder's)");
+        E.promise(39, "(neither the founder's). NONE: 1 (unlike); 5 (the founder's)");
         for (int founder = 0; founder < 2; founder++) {
             E.refused(() -> sideBySide(3, 2), 5, "ahead", founder, 2);
             E.refused(() -> sideBySide(3, 2), 5, "ahead", 2, founder);
@@ -196,7 +196,8 @@ public final class EdgeMarksTest {
         E.is(x, 1, "hung", 2, 2);
         E.is(x, 1, "hung", 2, 3);
         E.is(x, -2, "hung", 0, 3);
-        Driven none = sideBySide(0, 0).act("mark").act("paste", 0, 5, 1, 0).act("mark").act("scrape").act("paste", 0, 2, 0, 1);
+        Driven none = sideBySide(0, 0).act("mark").act("paste", 0, 5, 1, 0).act("mark").act("scrape").act("paste", 0,
+            2, 0, 1);
         E.is(none, 1, "back", 0);
         E.is(none, 0, "hanging");
         E.is(none, -2, "shows", 2, 0);
@@ -207,7 +208,7 @@ public final class EdgeMarksTest {
         E.is(none, -2, "shows", 7, 0);
         E.is(none, 5, "hung", 0, 1);
         E.is(none, 0, "hung", 0, 3);
-        Driven full = EdgeCellsTest.stack(30).act("mark").act("scrape");
+        Driven full = Driven.stack(30).act("mark").act("scrape");
         E.is(full, 1, "back", 0);
         E.is(full, 30, "hanging");
         E.is(full, 29, "shows", 1, 0);
@@ -258,14 +259,15 @@ public final class EdgeMarksTest {
     private static void whatIsntSeen() {
         E.promise(42, "The i-th of those HANGING that aren't SEEN.");
         for (int i : new int[] {0, 1, 27, 28}) {
-            E.is(EdgeCellsTest.stack(30), i, "led", i);
+            E.is(Driven.stack(30), i, "led", i);
         }
         Driven x = Driven.of("wall wide 3 high 1 law 1 seen;bill d plain wide 1 high 1 text a;rival p sheets 20"
             + ";founder d at 0,0;founder d at 1,0;founder d at 1,0;founder d at 2,0").act("paste", 0, 2, 0, 0);
         E.is(x, 1, "led", 0);
         E.is(x, 3, "led", 1);
         E.is(x, Driven.THROWN, "led", 2);
-        Driven part = Driven.of("wall wide 2 high 1 law 1 seen;bill a plain wide 2 high 1 text a;bill d plain wide 1 high 1 text d"
+        Driven part = Driven.of("wall wide 2 high 1 law 1 seen;bill a plain wide 2 high 1 text a"
+            + ";bill d plain wide 1 high 1 text d"
             + ";rival p sheets 20;founder a at 0,0").act("paste", 1, 0, 0, 0);
         E.is(part, Driven.THROWN, "led", 0);
         part.act("paste", 1, 1, 0, 0);
@@ -280,20 +282,22 @@ public final class EdgeMarksTest {
             E.is(sideBySide(3, 1), Driven.THROWN, "led", i);
         }
         for (int i : new int[] {-1, 29, 30, 31, 32, Edge.MOST, Edge.LEAST}) {
-            Driven x = EdgeCellsTest.stack(30);
+            Driven x = Driven.stack(30);
             x.ask("bill", -1, 0);
             E.is(x, Driven.THROWN, "led", i);
             E.is(x, 1, "trouble");
-            E.stays(() -> EdgeCellsTest.stack(30), x, "led " + i);
+            E.stays(() -> Driven.stack(30), x, "led " + i);
         }
     }
 
     private static void sizesAtTheirBounds() {
         E.promise(43, "0 wide, 1 high, 2 the law's number, 3 1 if by those that hang, 4 bills told, 5 rivals, 6 words,"
             + " 7 the founder's, 8 ACTS that can be undone, 9 MARKS, 10 bytes of THE TAPE.");
-        String bills = ";bill a plain wide 1 high 1 text a;bill b plain wide 1 high 1 text b;bill c plain wide 1 high 1 text c"
+        String bills = ";bill a plain wide 1 high 1 text a;bill b plain wide 1 high 1 text b"
+            + ";bill c plain wide 1 high 1 text c"
             + ";bill d plain wide 1 high 1 text d";
-        Driven most = Driven.of("wall wide 8 high 4 law 4 hang" + bills + ";rival p sheets 1;rival q sheets 1;rival r sheets 1"
+        Driven most = Driven.of("wall wide 8 high 4 law 4 hang" + bills + ";rival p sheets 1;rival q sheets 1"
+            + ";rival r sheets 1"
             + ";word a;word b;word c;word d;word e;word f" + ";founder a at 0,0".repeat(4))
             .times(3, "mark").times(13, "scrape");
         for (int i = 0; i < 46; i++) {
@@ -326,7 +330,8 @@ public final class EdgeMarksTest {
         for (int what = 0; what <= 10; what++) {
             E.is(x, 0, "size", what);
         }
-        x.tell("wall wide 8 high 4 law 4 hang;bill a plain wide 1 high 1 text a;rival r sheets 3;word a;founder a at 0,0;founder");
+        x.tell("wall wide 8 high 4 law 4 hang;bill a plain wide 1 high 1 text a;rival r sheets 3;word a"
+            + ";founder a at 0,0;founder");
         for (int what = 0; what <= 10; what++) {
             E.is(x, 0, "size", what);
         }
@@ -339,9 +344,10 @@ public final class EdgeMarksTest {
         Driven x = sideBySide(2, 1);
         E.is(x, 0, "trouble");
         x.ask("bill", 9, 0);
-        Object[][] others = {{"feed", 0, 0, 0, 0, 0}, {"fault"}, {"where"}, {"led", 0}, {"size", 0}, {"size", 99}, {"trouble"}};
+        Object[][] others = {{"feed", 0, 0, 0, 0, 0}, {"fault"}, {"where"}, {"led", 0}, {"size", 0}, {"size", 99},
+            {"trouble"}};
         for (Object[] other : others) {
-            x.ask((String) other[0], Arrays.copyOfRange(other, 1, other.length));
+            x.askRow(other);
             E.due("trouble behind " + other[0], x.ask("trouble"), 1);
         }
         for (int i = 0; i < 50; i++) {
@@ -356,14 +362,16 @@ public final class EdgeMarksTest {
 
     private static void eachTrouble() {
         E.promise(44, "TROUBLE.");
-        Object[][] calls = {{0, "hanging"}, {1, "bill", 1, 0}, {2, "days", 31}, {3, "orders"}, {5, "tear", 0}, {6, "beneath", 0, 0, 1}};
+        E.term("0 it wasn't; 1 there is none such; 2 a number; 3 no room; 4 a FAULT; 5 not so; 6 there is none.");
+        int[] troubles = {0, 1, 2, 3, 5, 6};
+        Object[][] calls = {{"hanging"}, {"bill", 1, 0}, {"days", 31}, {"orders"}, {"tear", 0}, {"beneath", 0, 0, 1}};
         for (Object[] first : calls) {
-            for (Object[] call : calls) {
+            for (int i = 0; i < calls.length; i++) {
                 Driven x = sideBySide(8, 1);
-                x.ask((String) first[1], Arrays.copyOfRange(first, 2, first.length));
-                x.ask((String) call[1], Arrays.copyOfRange(call, 2, call.length));
-                E.due("trouble of " + call[1] + " behind " + first[1], x.ask("trouble"), (Integer) call[0]);
-                E.due("trouble told again", x.ask("trouble"), (Integer) call[0]);
+                x.askRow(first);
+                x.askRow(calls[i]);
+                E.due("trouble of " + calls[i][0] + " behind " + first[0], x.ask("trouble"), troubles[i]);
+                E.due("trouble told again", x.ask("trouble"), troubles[i]);
             }
         }
         Driven faulty = sideBySide(1, 1);
@@ -371,5 +379,25 @@ public final class EdgeMarksTest {
         E.due("trouble of a fault", faulty.ask("trouble"), 4);
         E.due("told anew", faulty.tell("wall wide 2 high 1 law 0 seen;bill a plain wide 1 high 1 text a"), 1);
         E.due("trouble without one", faulty.ask("trouble"), 0);
+    }
+
+    private static void upToTheLastCall() {
+        E.about("An object is used for at most 512 calls after it has been made");
+        Driven x = Driven.stack(2);
+        int days = 0;
+        while (x.calls() < Driven.MOST_CALLS - 26) {
+            x.act("days", 1 + days % 30);
+            days++;
+        }
+        int due = 0;
+        for (int i = 0; i < days - 12; i++) {
+            due += 2 * (1 + i % 30);
+        }
+        x.times(12, "undo");
+        E.due("what was paid", x.ask("rival", 1, 2), due);
+        E.due("nothing more to undo", x.ask("undo"), 0);
+        x.times(11, "scrape");
+        E.due("the 512th call", x.ask("size", 8), 11);
+        E.due("calls", x.calls(), Driven.MOST_CALLS);
     }
 }

@@ -270,7 +270,7 @@ public final class EdgeTapeTest {
         }
         for (Object[] call : MAY_BE_REFUSED) {
             Driven y = faulty();
-            y.ask((String) call[0], Arrays.copyOfRange(call, 1, call.length));
+            y.askRow(call);
             E.due("where behind " + call[0], y.ask("where"), CoverTwo.NONE);
             E.due("another trouble behind " + call[0], y.ask("trouble") == 4 ? 1 : 0, 0);
             E.due("fault behind " + call[0], y.ask("fault"), 1);

@@ -29,17 +29,19 @@ public final class EdgeWordsTest {
             for (String run : rows[y].split("\\.+")) {
                 if (!run.isEmpty()) {
                     char name = (char) ('q' + many++);
-                    bills.append(";bill ").append(name).append(" plain wide ").append(run.length()).append(" high 1 text ").append(run);
-                    founders.append(";founder ").append(name).append(" at ").append(rows[y].indexOf(run)).append(',').append(y);
+                    bills.append(";bill " + name + " plain wide " + run.length() + " high 1 text " + run);
+                    founders.append(";founder " + name + " at " + rows[y].indexOf(run) + "," + y);
                 }
             }
         }
-        return Driven.of("wall wide " + rows[0].length() + " high " + rows.length + " law 1 seen" + bills + words + founders);
+        String wall = "wall wide " + rows[0].length() + " high " + rows.length + " law 1 seen";
+        return Driven.of(wall + bills + words + founders);
     }
 
     /** Row 0: a b a b . and row 1: . . a b c; bills 0 x of one letter, 1 y of two, 2 z; words ab, bab, zz. */
     private static Driven told() {
-        return Driven.of("wall wide 5 high 2 law 0 seen;bill x plain wide 1 high 1 text c;bill y plain wide 2 high 1 text ab"
+        return Driven.of("wall wide 5 high 2 law 0 seen;bill x plain wide 1 high 1 text c"
+            + ";bill y plain wide 2 high 1 text ab"
             + ";bill z torn wide 1 high 1 text z;bill w wording wide 1 high 1 text b;rival r sheets 9"
             + ";word ab;word bab;word zz;founder y at 0,0;founder y at 2,0;founder y at 2,1;founder x at 4,1");
     }
@@ -141,7 +143,8 @@ public final class EdgeWordsTest {
         E.is(x, 7, "readAt", 0);
         x.act("paste", 2, 2, 1, 0);
         E.is(x, -2, "readAt", 0);
-        Driven corner = Driven.of("wall wide 8 high 4 law 0 seen;bill a plain wide 1 high 1 text a;bill b plain wide 2 high 1 text b"
+        Driven corner = Driven.of("wall wide 8 high 4 law 0 seen;bill a plain wide 1 high 1 text a"
+            + ";bill b plain wide 2 high 1 text b"
             + ";word a;word b;founder a at 7,3;founder b at 6,0");
         E.is(corner, 31, "readAt", 0);
         E.is(corner, 6, "readAt", 1);
@@ -171,7 +174,8 @@ public final class EdgeWordsTest {
         Driven eight = rows(";word abcdefgh", "xxxxxxxx", "abcdefgh");
         E.is(eight, 1, "readBy", 0, 0);
         E.is(eight, 1, "readBy", 0, 7);
-        Driven across = Driven.of("wall wide 3 high 1 law 0 seen;bill a plain wide 1 high 1 text a;bill b plain wide 1 high 1 text b"
+        Driven across = Driven.of("wall wide 3 high 1 law 0 seen;bill a plain wide 1 high 1 text a"
+            + ";bill b plain wide 1 high 1 text b"
             + ";rival r sheets 3;word abb;founder b at 2,0").act("paste", 0, 0, 0, 0).act("paste", 1, 1, 0, 0);
         int[] by = {1, 2, 0};
         for (int i = 0; i < 3; i++) {
@@ -223,7 +227,8 @@ public final class EdgeWordsTest {
 
     /** So many pasted on the founder's one, in the same cells; bill 1 would make a word. */
     private static Driven heap(int pasted) {
-        Driven x = Driven.of("wall wide 2 high 1 law 1 seen;bill a plain wide 2 high 1 text a;bill b plain wide 2 high 1 text b"
+        Driven x = Driven.of("wall wide 2 high 1 law 1 seen;bill a plain wide 2 high 1 text a"
+            + ";bill b plain wide 2 high 1 text b"
             + ";rival p sheets 20;rival q sheets 20;word bb;founder a at 0,0");
         for (int i = 0; i < pasted; i++) {
             x.act("paste", 0, 0, 0, i % 2);
