@@ -63,6 +63,11 @@ public final class EdgeWordsTest {
             }
         }
         E.is(rows(";word abcdefgh", "abcdefgx"), 0, "reads", 0);
+        Driven other = rows(";word aaaaa;word aaaaaaaa", "bbbbbbbb");
+        for (int w = 0; w < 2; w++) {
+            E.is(other, 0, "reads", w);
+            E.is(other, -2, "readAt", w);
+        }
         E.is(rows(";word abcdefgh", "xbcdefgh"), 0, "reads", 0);
     }
 
