@@ -1021,7 +1021,7 @@ public final class CoverTwo {
         int count;
 
         Shelf(int room) {
-            kept = new int[room][KEPT_SIZE];
+            kept = new int[Math.max(room, 1)][KEPT_SIZE];
         }
 
         void forgetAll() {

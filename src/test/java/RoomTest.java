@@ -1,15 +1,12 @@
 import java.lang.reflect.Array;
 import java.lang.reflect.Field;
 import java.lang.reflect.Modifier;
-import java.nio.file.Files;
-import java.nio.file.Path;
 import java.util.ArrayDeque;
 import java.util.Deque;
 import java.util.IdentityHashMap;
-import java.util.List;
 import java.util.Map;
 
-/** All that is made is made in constructors, and is little: nothing is kept or made by calls. */
+/** What an object is made of is little, and calls don't add to it (that they make nothing: LanguageTest, rule 12). */
 public final class RoomTest {
     private static final Check CHECK = new Check();
 
@@ -24,7 +21,6 @@ public final class RoomTest {
         long[] used = count(x);
         CHECK.due("behind calls " + used[0] + " objects", used[0] <= fresh[0], true);
         CHECK.due("behind calls " + used[1] + " fields and elements", used[1] <= fresh[1], true);
-        newInConstructorsAlone();
         CHECK.end();
     }
 
@@ -64,21 +60,6 @@ public final class RoomTest {
             }
         }
         return fields;
-    }
-
-    private static void newInConstructorsAlone() throws Exception {
-        List<String> lines = Files.readAllLines(Path.of("src/main/java/CoverTwo.java"));
-        for (int i = 0; i < lines.size(); i++) {
-            String code = lines.get(i).strip();
-            boolean comment = code.startsWith("*") || code.startsWith("/*") || code.startsWith("//");
-            boolean field = code.matches("(private |final )*\\w+(\\[\\])* \\w+ = new [\\w\\[\\]() *]+;")
-                && lines.get(i).matches(" {4}(    )?\\S.*");
-            boolean shelf = code.equals("kept = new int[room][KEPT_SIZE];");
-            boolean thrown = code.startsWith("throw new NoSuchElementException(");
-            if (!comment && code.contains("new ")) {
-                CHECK.due("line " + (i + 1) + " makes something", field || shelf || thrown, true);
-            }
-        }
     }
 
     private static void work(CoverTwo x) {
